@@ -503,7 +503,7 @@ public final class ViewStamps {
                     if (!voted || isFirst()) {
                         return size - 1;
                     }
-                    vote();
+                    castVote();
                     return size;
                 case RECOVERING:
                     postToAll(ASK, nonce);
@@ -591,7 +591,7 @@ public final class ViewStamps {
             }
             voters |= sender;
             if (!voted && Integer.bitCount(voters) >= enough) {
-                vote();
+                castVote();
                 leadIfElected();
             }
             return true;
@@ -648,7 +648,7 @@ public final class ViewStamps {
         }
 
         /** The FIRST's own VOTE goes to its VOTES at once, not through THE POOL. */
-        private void vote() {
+        private void castVote() {
             voted = true;
             Letter vote = write(firstOf(view), VOTE, lastView);
             if (isFirst()) {

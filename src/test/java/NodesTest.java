@@ -2,6 +2,7 @@
 public final class NodesTest {
     public static void main(String[] args) {
         prepareInTheSameView();
+        prepareOfLikeLength();
         prepareOfAHigherView();
         prepareAtAChangingNode();
         beginLeavesSureWithinTheLog();
@@ -40,6 +41,18 @@ public final class NodesTest {
         Due.due("sure", x.node(1, 4), 2);
         Due.due("an old prepare", x.deliver(shorter), 1);
         Due.due("sure stays", x.node(1, 4), 2);
+    }
+
+    /** In the same view only a longer log is taken. */
+    private static void prepareOfLikeLength() {
+        ViewStamps x = new ViewStamps(3);
+        nodeOneLeadsTwice(x, 1);
+        Steps.set(x, 1, 1, 99);
+        Due.due("a log of like length", Steps.pass(x, 1, 2, Steps.PREPARE), 1);
+        Due.due("its own stays", x.entry(2, 1, 5), 1);
+        Steps.set(x, 1, 2, 98);
+        Due.due("a longer log", Steps.pass(x, 1, 2, Steps.PREPARE), 1);
+        Due.due("it is taken whole", x.entry(2, 1, 5), 99);
     }
 
     private static void prepareOfAHigherView() {
